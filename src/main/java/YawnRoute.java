@@ -166,26 +166,26 @@ public final class YawnRoute {
     public int pass(int t) {
         deeds.note();
         int why = deeds.tryPass(state, t);
-        return kept(why, state.size);
+        return answered(why, state.size);
     }
 
     public int off(int s, int size) {
         deeds.note();
         int why = deeds.tryOff(state, s, size);
-        return kept(why, state.hours);
+        return answered(why, state.hours);
     }
 
     public int sleep(int s) {
         deeds.note();
         int why = deeds.trySleep(state, s);
-        return kept(why, state.isAsleep(s) ? 1 : 0);
+        return answered(why, state.isAsleep(s) ? 1 : 0);
     }
 
     public int dull(int s, int n) {
         deeds.note();
         int ahead = state.dullOf(s);
         int why = deeds.tryDull(state, s, n);
-        return kept(why, ahead);
+        return answered(why, ahead);
     }
 
     public int undo(int n) {
@@ -514,7 +514,8 @@ public final class YawnRoute {
         passings.forgetAll();
     }
 
-    private int kept(int why, int answer) {
+    /** What a deed answers: if it was done, the past keeps what was noted ahead of it. */
+    private int answered(int why, int answer) {
         if (why != 0) {
             return WHY_NOT - why;
         }
@@ -734,7 +735,10 @@ public final class YawnRoute {
             }
         }
 
-        /** The size a passing brings if none sleeps: CANT, 0 if it is lost; so dull takes it up. */
+        /**
+         * The size that a passing brings to a station that is awake and as dull as told: CANT, 0 if
+         * it is lost.
+         */
         int carried(int from, int size, int to, int dull) {
             int way = hoursOf(from, to);
             if (way == 0) {
@@ -1446,9 +1450,10 @@ public final class YawnRoute {
         Passings(Net net, State state) {
             this.net = net;
             this.state = state;
-            Arrays.fill(brought, (byte) UNKNOWN);
+            forgetAll();
         }
 
+        /** Behind another net nothing that was worked out holds. */
         void forgetAll() {
             Arrays.fill(brought, (byte) UNKNOWN);
         }

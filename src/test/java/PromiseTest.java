@@ -243,6 +243,12 @@ public final class PromiseTest {
         due("both of and", taken("1=1 and 2=3"), 0);
         due("either of or", taken("1=2 or 3=3"), 1);
         due("neither", taken("1=2 or 3=4"), 0);
+        due("or, or, or", taken("1=2 or 2=3 or 3=4 or 4=4"), 1);
+        due("none of many", taken("1=2 or 2=3 or 3=4 or 4=5"), 0);
+        due("and, and, and", taken("1=1 and 2=2 and 3=3 and 4=5"), 0);
+        due("all of many", taken("1=1 and 2=2 and 3=3 and 4=4"), 1);
+        due("+ - + -", told("1+2-3+4-5+6"), 5);
+        due("* * *", told("1*2*3*4"), 24);
         due("six deep", taken("not [not [not [1=1]]]"), 0);
         due("six beside six", taken("not not not not not not 1=1 and [[[[[[1=1]]]]]] or ((((((1))))))=2"), 1);
     }
@@ -1082,9 +1088,23 @@ public final class PromiseTest {
             + "takes:from=1 or dull<6;passes:if from=1 then 7+dull*0 else if dull<3 then 9-dull else 0 end end;");
         Check.tray(z, 0, 2);
         due("lost and can't are as one: 7 against 10", z.attempt(0, 3, 9), 0);
+        due("9 lost against 5 lost", tellsApart("if dull=9 then 2 else 0 end", "if dull<5 then 0 else 1 end"), 1);
+        due("9 lost against 10 lost", tellsApart("if dull=9 then 2 else 0 end", "0"), 0);
+        due("5 without 0 against 5 with it", tellsApart("if dull>4 then 20 else dull+1 end",
+            "if dull<5 then 20 else dull end"), 0);
+        due("5 without 9 against 5 with it", tellsApart("if dull<5 then 20 else dull end",
+            "if dull>4 then 20 else dull+1 end"), 0);
         YawnRoute nowhere = Check.of(NOWHERE);
         Check.tray(nowhere, 0, 1);
         due("nowhere", nowhere.attempt(0, 1, 1), -5);
+    }
+
+    /** Nothing is known of how dull 2 is: two sums tell what passing to it from 0 and from 1 brings. */
+    private static int tellsApart(String from0, String from1) {
+        YawnRoute x = Check.of("net;station;station;station;station;way 0 2;way 1 2;way 0 3;at 0 size 9;passes:"
+            + "if station=3 then 9 else if from=0 then " + from0 + " else " + from1 + " end end;");
+        Check.tray(x, 0, 3);
+        return x.attempt(0, 2, 9);
     }
 
     private static void forces() {

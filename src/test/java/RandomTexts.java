@@ -81,6 +81,10 @@ final class RandomTexts {
         if (n == 9) {
             return unit(open) + " or " + unit(open);
         }
+        if (n == 10 && open < 2) {
+            String sign = random.nextBoolean() ? " and " : " or ";
+            return truth(5) + sign + truth(5) + sign + likely(5) + (random.nextBoolean() ? sign : " or ") + likely(5);
+        }
         return likely(open);
     }
 
