@@ -345,9 +345,13 @@ public final class YawnRoute {
     }
 
     public int backBy(int n, int s, int size, int i) {
-        int refused = refusal(net.isStation(s), isBack(n, size) && i >= 0);
+        int refused = refusal(net.isStation(s), isBack(n, size));
         if (refused != 0) {
             return refused;
+        }
+        // what back() refuses is told ahead of i, that it is nowhere, too
+        if (i < 0) {
+            return NO_NUMBER;
         }
         return steps.countBack(n, placeOf(s, size)) > 0 ? steps.stationBack(n, i) : NONE;
     }

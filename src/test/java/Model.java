@@ -923,9 +923,12 @@ final class Model {
     }
 
     int backBy(int n, int s, int size, int i) {
-        int r = refused(is(s), n >= 1 && n <= 10 && isSize(size) && i >= 0);
+        int r = refused(is(s), n >= 1 && n <= 10 && isSize(size));
         if (r != 0) {
             return r;
+        }
+        if (i < 0) {
+            return -3;
         }
         List<List<Integer>> all = backs(n, s, size);
         return all.isEmpty() || i >= n ? NONE : all.get(0).get(i);

@@ -982,6 +982,9 @@ public final class PromiseTest {
         due("size", x.backBy(2, 0, 41, 0), -3);
         due("none such", x.backBy(2, 4, 9, -1), -2);
         due("nowhere", Check.of(NOWHERE).backBy(1, 0, 1, 0), -5);
+        due("nowhere, told ahead of i", Check.of(NOWHERE).backBy(1, 0, 1, -1), -5);
+        due("n, told ahead of nowhere", Check.of(NOWHERE).backBy(0, 0, 1, -1), -3);
+        due("below 0, told ahead of there are none", x.backBy(1, 3, 5, -1), -3);
         YawnRoute y = complete();
         String first = "";
         for (int i = 0; i < 10; i++) {
