@@ -11,10 +11,14 @@ import java.util.regex.Matcher;
 import java.util.regex.Pattern;
 import java.util.spi.ToolProvider;
 
-/** Rules 8 and 11 as the compiled class tells them: calls go eight deep, and only the laws' reader recurs. */
+/** Rules 4, 8 and 11 as the compiled class tells them: what it calls of the library, how deep, what recurs. */
 public final class DepthTest {
     private static final Pattern METHOD = Pattern.compile("^  \\S.*?([\\w$]+)\\(.*\\);$");
     private static final Pattern CALL = Pattern.compile("invoke\\w+ .*// (?:Interface)?Method (.+?):");
+
+    private static final Set<String> LIBRARY = Set.of("java/lang/Object.<init>", "java/lang/Integer.bitCount",
+        "java/lang/Math.floorMod", "java/lang/Math.max", "java/lang/Math.min", "java/lang/String.charAt",
+        "java/lang/String.indexOf", "java/lang/String.length", "java/lang/System.arraycopy", "java/util/Arrays.fill");
 
     private static final Map<String, Set<String>> calls = new TreeMap<>();
     private static final Map<String, Integer> depths = new HashMap<>();
@@ -26,6 +30,11 @@ public final class DepthTest {
         String path = YawnRoute.class.getProtectionDomain().getCodeSource().getLocation().getPath();
         for (Class<?> c : all) {
             read(path, c.getName());
+        }
+        for (Set<String> called : calls.values()) {
+            for (String method : called) {
+                check.holds("rule 4: " + method, method.startsWith("YawnRoute") || LIBRARY.contains(method));
+            }
         }
         Set<String> recurring = new TreeSet<>();
         for (String method : calls.keySet()) {

@@ -74,9 +74,19 @@ public final class FaceTest {
             boolean isStatic = Modifier.isStatic(f.getModifiers());
             n += isStatic ? 0 : 1;
             check.holds(f + " is a constant or of an object", !isStatic || Modifier.isFinal(f.getModifiers()));
+            check.holds(f + " is of a type that rule 3 names", isPlain(f.getType()));
             check.holds(f + " is of a type for constants", !isStatic || f.getType().isPrimitive() || f.getType() == String.class);
         }
         check.holds(c + " has " + n + " fields", n <= 20);
+    }
+
+    /** Of one dimension, or of two of numbers. */
+    private static boolean isPlain(Class<?> type) {
+        if (!type.isArray()) {
+            return type.isPrimitive() || type == String.class || type.getName().startsWith("YawnRoute");
+        }
+        Class<?> part = type.getComponentType();
+        return part.isArray() ? part.getComponentType().isPrimitive() : part.isPrimitive() || part.getName().startsWith("YawnRoute");
     }
 
     private static String told(Method m) {
