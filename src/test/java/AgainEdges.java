@@ -3,7 +3,9 @@
  * as one without. Each promise is asked for all its stations and the sizes at both ends.
  */
 final class AgainEdges extends EdgePart {
-    private static final String OTHER = "net;station kind 3;station kind 2;station kind 5;station;station kind 4;station;station;"
+    /** As dull as the other one, as what is kept of a passing hangs on the dullness of that which takes. */
+    private static final String OTHER = "net;station dull 1 kind 3;station dull 2 kind 2;station dull 3 kind 5;station dull 4;"
+        + "station dull 5 kind 4;station dull 6;station dull 7;"
         + ways("01 12 23 34 45 56 60 10 21 32 43 54 65 06 03 30") + "at 6 size 3;takes:kind<9;passes:size+kind+1;";
     /** Told with how dull each of seven stations is. */
     private static final String LAWS = "takes:size+3>dull or kind=2;passes:if dull<4 then size+1 else size+5-dull end;";
@@ -45,8 +47,8 @@ final class AgainEdges extends EdgePart {
         for (int s = 0; s < 7; s++) {
             b.append("station dull ").append(dull[s]).append(s == 2 ? " kind 2;" : ";");
         }
-        return b.append("way 0 1 hours 3 odds 4;way 1 2 odds 6;way 2 0 hours 2;way 2 3 odds 3;way 3 4 hours 9;way 4 5;way 5 6;way 3 6 hours 9;")
-            .append(ways("60 40 05")).append("at 0 size 4;").append(LAWS).toString();
+        return b.append("way 0 1 hours 3 odds 4;way 1 2 odds 6;way 2 0 hours 2;way 2 3 odds 3;")
+            .append("way 3 4 hours 9;way 4 5;way 5 6;way 3 6 hours 9;").append(ways("60 40 05")).append("at 0 size 4;").append(LAWS).toString();
     }
 
     private void again(int promise, String sentence) {
@@ -54,6 +56,7 @@ final class AgainEdges extends EdgePart {
             YawnRoute x = Check.of(OTHER);
             Check.tray(x, 0, 1, 2, 0);
             asked(promise, x);
+            due("an image", x.image(1), 0);
             Check.read(x, net(1, 2, 3, 4, 5, 6, 7));
             alike("another net", promise, x, Check.of(net(1, 2, 3, 4, 5, 6, 7)));
         });

@@ -10,6 +10,7 @@ final class RouteEdges extends EdgePart {
 
     @Override
     void all() {
+        dullOnes();
         route();
         coming();
         soonestOfAll();
@@ -43,6 +44,47 @@ final class RouteEdges extends EdgePart {
 
     private void by(String what, String got, String want) {
         due(what + ": " + got + ", due is " + want + " (1: alike)", got.equals(want) ? 1 : 0, 1);
+    }
+
+    /** All questions ask how dull the one that takes it is by now, whichever it is. */
+    private void dullOnes() {
+        for (int s = 0; s < 7; s++) {
+            int to = s;
+            int from = (s + 1) % 7;
+            edge(7, "In both laws: station, dull, kind: the number, dullness, kind of that which is to take it", () -> {
+                YawnRoute x = Check.of(stations(7) + "way " + from + " " + to + ";at " + from + " size 5;takes:dull<9;passes:dull+2;");
+                due("not dull", x.biggest(to), 2);
+                asDull(x, from, to, 2);
+                x.dull(to, 7);
+                asDull(x, from, to, 9);
+                x.dull(from, 3);
+                asDull(x, from, to, 9);
+                x.dull(to, 9);
+                due("too dull: biggest", x.biggest(to), NONE);
+                due("soonest", x.soonest(to, 1), NONE);
+                due("reach", x.reach(), 1 << from);
+                due("crowd", x.crowd(), 1 << from);
+                due("forces", x.forces(to), NONE);
+                x.undo(3);
+                asDull(x, from, to, 2);
+            });
+        }
+    }
+
+    private void asDull(YawnRoute x, int from, int to, int size) {
+        due("biggest", x.biggest(to), size);
+        due("soonest", x.soonest(to, size), 1);
+        due("soonest with more", x.soonest(to, size + 1), NONE);
+        due("fewest", x.fewest(to, size), 1);
+        due("fewest with more", x.fewest(to, size + 1), NONE);
+        due("spread", x.spread(to, 1), size);
+        due("back", x.back(1, to, size), 1);
+        due("back with more", x.back(1, to, size + 1), 0);
+        due("chance", x.chance(to, 1, 1), 10);
+        due("meets", x.meets(from, to, 5), 1);
+        due("pass", x.pass(to), size);
+        due("undone", x.undo(1) >= 0 ? 1 : 0, 1);
+        due("it is there again", x.count(2), from);
     }
 
     private void route() {
