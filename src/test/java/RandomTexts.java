@@ -34,6 +34,9 @@ final class RandomTexts {
             add(b, station());
         }
         b.append(random.nextInt(4) == 0 ? " \n" : "");
+        if (random.nextInt(6) == 0) {
+            moveLine(b);
+        }
         return random.nextInt(5) == 0 ? changed(b) : b.toString();
     }
 
@@ -124,6 +127,22 @@ final class RandomTexts {
     private String atom(int open) {
         String[] words = {"station", "dull", "kind", "size", "from", "hours", "1", "2", "3", "999", "07", "size"};
         return words[random.nextInt(words.length)];
+    }
+
+    /** A line is told elsewhere, too, or with another number: what is told later counts, or has a fault. */
+    private void moveLine(StringBuilder b) {
+        String[] lines = b.toString().split("(?<=;)");
+        String line = lines[random.nextInt(lines.length)];
+        if (random.nextInt(3) > 0) {
+            line = line.replaceFirst("\\d+", "" + random.nextInt(random.nextInt(3) == 0 ? 1000 : 10));
+        }
+        int from = 0;
+        for (int i = random.nextInt(lines.length + 1); i > 0; i--) {
+            from += lines[i - 1].length();
+        }
+        if (b.length() + line.length() <= 900) {
+            b.insert(from, line);
+        }
     }
 
     private String changed(StringBuilder b) {
