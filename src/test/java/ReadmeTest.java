@@ -26,7 +26,7 @@ public final class ReadmeTest {
         if (programs.size() == 1 && commands.size() == 3) {
             example(programs.get(0), commands.get(0));
             check.holds("all tests are run by sh .ci/run", commands.get(1).equals("sh .ci/run"));
-            check.holds(".ci/run can be run", Files.isExecutable(Path.of(".ci/run")));
+            check.holds(".ci/run is there", Files.exists(Path.of(".ci/run")));
             one(commands.get(2));
         }
         named(page);
